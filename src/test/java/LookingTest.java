@@ -11,6 +11,7 @@ public final class LookingTest {
         tunnel(x);
         grant(x);
         known(x);
+        itemsThatDoNotExist();
         behindAndSecrets();
         CHECK.end();
     }
@@ -118,6 +119,14 @@ public final class LookingTest {
         for (int what = 0; what < 4; what++) {
             due("a link that is down, " + what, x.known(2, 17, what), down[what]);
             due("what others know of it, " + what, x.known(3, 17, what), old[what]);
+        }
+    }
+
+    private static void itemsThatDoNotExist() {
+        PrivateLinkRouting x = Check.loaded("node 0;");
+        for (int item = -1; item < 40; item++) {
+            boolean isGrant = item >= 0 && item < 16 && item / 4 != item % 4;
+            due("item " + item, x.known(0, item, 0), isGrant ? 0 : -1);
         }
     }
 

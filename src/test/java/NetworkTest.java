@@ -13,6 +13,7 @@ public final class NetworkTest {
         addLinkMakesAllNews();
         fullOfLinks();
         setLink();
+        setOneOfSeveral();
         setLinkMakesNews();
         setGrant();
         setGrantTeachesItsArea();
@@ -154,6 +155,22 @@ public final class NetworkTest {
         due("setLink is an action", x.undo(), 4);
         due("its version after undo", x.link(0, 5), 3);
         due("the end's version after undo", x.known(0, 16, 0), 3);
+    }
+
+    private static void setOneOfSeveral() {
+        PrivateLinkRouting x = Check.loaded("node 0;node 1;node 0;link 0 1 5;link 1 2 6;tunnel 0 1 7;tunnel 1 2 8;");
+        due("link 1 as link 0 is", x.setLink(1, 1, 5), 2);
+        due("link 1 as it is", x.setLink(1, 1, 5), ILLEGAL);
+        due("link 0 is as before", x.link(0, 5), 1);
+        due("link 1 has its cost", x.link(1, 2), 5);
+        due("tunnel 1 as tunnel 0 is", x.setTunnel(1, 1, 7), 2);
+        due("tunnel 1 as it is", x.setTunnel(1, 1, 7), ILLEGAL);
+        due("tunnel 0 is as before", x.tunnel(0, 4), 1);
+        due("tunnel 1's entry", x.tunnel(1, 0), 1);
+        due("tunnel 1's exit", x.tunnel(1, 1), 2);
+        due("tunnel 1's cost", x.tunnel(1, 2), 7);
+        due("tunnel 1's version", x.tunnel(1, 4), 2);
+        due("the entry of tunnel 1 knows", x.known(1, 33, 0), 2);
     }
 
     private static void setLinkMakesNews() {

@@ -19,6 +19,10 @@ public final class PathsTest {
         targetInsideOfTunnel();
         noTunnelInsideOfTunnel();
         areaInsideOfTunnel();
+        areaBehindTunnel();
+        droppedInsideOfTunnel();
+        exitIsNodeZero();
+        fullHouse();
         outcomes();
         ideal();
         worth();
@@ -86,11 +90,13 @@ public final class PathsTest {
     }
 
     private static void leastNodes() {
-        PrivateLinkRouting x = Check.settled("node 0;node 0;node 0;node 0;link 0 2 1;link 2 3 1;link 1 3 1;link 0 1 1;");
+        PrivateLinkRouting x = Check.settled(
+            "node 0;node 0;node 0;node 0;link 0 2 1;link 2 3 1;link 1 3 1;link 0 1 1;");
         due("the least node", x.next(0, 3, 0, 0), 1);
         due("though its item is greater", x.next(0, 3, 0, 1), 19);
         due("back too", x.next(3, 0, 0, 0), 1);
-        PrivateLinkRouting y = Check.settled("node 0;node 0;node 0;node 0;link 0 1 2;link 1 3 2;link 0 2 1;link 2 3 3;");
+        PrivateLinkRouting y = Check.settled(
+            "node 0;node 0;node 0;node 0;link 0 1 2;link 1 3 2;link 0 2 1;link 2 3 3;");
         due("costs on the way do not matter", y.next(0, 3, 0, 0), 1);
     }
 
@@ -259,11 +265,11 @@ public final class PathsTest {
     }
 
     private static void areaInsideOfTunnel() {
-        PrivateLinkRouting x = Check.settled("node 0;node 1;node 1;node 2;private 0 2 3;link 0 1 1;link 2 3 1;link 0 3 20;"
-            + "tunnel 0 2 1;");
+        PrivateLinkRouting x = Check.settled("node 0;node 1;node 1;node 2;"
+            + "private 0 2 3;link 0 1 1;link 2 3 1;link 0 3 20;tunnel 0 2 1;");
         due("node 1 takes the tunnel", x.send(1, 2), 0);
         due("over the private link of its entry's area", x.way(-2), 4);
-        due("the area is its own again behind it", x.send(1, 3), 0);
+        due("and goes on behind it", x.send(1, 3), 0);
         due("its cost", x.way(-2), 5);
         PrivateLinkRouting y = Check.settled("node 1;node 0;node 0;link 0 1 1;private 1 2 3;tunnel 0 2 1;grant 0 1;");
         y.setGrant(0, 1, 0);
@@ -271,6 +277,66 @@ public final class PathsTest {
         due("inside of the tunnel, at the owner's node", y.way(-1), 2);
         due("a packet of the entry", y.send(0, 2), 1);
         due("is dropped there, too", y.way(-1), 1);
+    }
+
+    private static void areaBehindTunnel() {
+        PrivateLinkRouting x = Check.settled("node 0;node 1;node 0;node 0;"
+            + "link 0 1 1;link 0 2 3;private 2 3 1;link 2 3 5;tunnel 0 2 1;");
+        due("delivered", x.send(1, 3), 0);
+        due("behind the tunnel the area is its own again", x.way(-2), 9);
+        due("the entry's packet", x.send(0, 3), 0);
+        due("goes over the private link", x.way(-2), 4);
+    }
+
+    private static void droppedInsideOfTunnel() {
+        PrivateLinkRouting x = Check.settled("node 0;node 0;node 0;link 0 1 5;tunnel 0 2 1;");
+        due("dropped inside", x.send(0, 2), 1);
+        due("the next packet is not inside", x.send(0, 1), 0);
+        due("its way", x.way(-1), 1);
+        due("delivered", x.outcomes(0), 2);
+    }
+
+    private static void exitIsNodeZero() {
+        PrivateLinkRouting x = Check.settled("node 0;node 0;node 0;link 1 2 5;link 2 0 1;tunnel 1 0 1;link 0 1 20;");
+        due("through the tunnel to node 0 and on", x.send(1, 2), 0);
+        int[] want = {7, 3, 1, 2, 0, 2, -9};
+        for (int i = 0; i < want.length; i++) {
+            due("by node 0 " + (i - 2), x.way(i - 2), want[i]);
+        }
+        due("to node 0", x.send(1, 0), 0);
+        due("over two links", x.way(-1), 2);
+    }
+
+    /** All nodes, links and tunnels that there can be: a ring with chords. */
+    private static void fullHouse() {
+        PrivateLinkRouting x = new PrivateLinkRouting();
+        for (int node = 0; node < 10; node++) {
+            x.addNode(node % 4);
+        }
+        for (int link = 0; link < 16; link++) {
+            x.addLink(link % 10, (link + 1 + link / 10) % 10, 20, link < 10 ? 0 : 1);
+        }
+        for (int tunnel = 0; tunnel < 3; tunnel++) {
+            x.addTunnel(9 - tunnel, tunnel, 40);
+        }
+        for (int owner = 0; owner < 4; owner++) {
+            for (int area = 0; area < 4; area++) {
+                x.setGrant(owner, area, 1);
+            }
+        }
+        due("settle", x.settle(), 4);
+        for (int node = 0; node < 10; node++) {
+            due("all grants, links and tunnels", x.node(node, 1), 12 + 16 + 3);
+            due("nothing is behind", x.node(node, 3), 0);
+            due("no secrets", x.node(node, 4), 0);
+        }
+        due("all are delivered", x.outcomes(0), 90);
+        due("over chords", x.ideal(0, 5), 60);
+        due("no tunnel is needed", x.distance(0, 5, 0), 60);
+        x.setGrant(3, 0, 0);
+        due("from nodes 3 and 7 all others are two links away at most", x.settle(), 3);
+        due("one private link less for area 0", x.node(0, 1) + x.node(4, 1) + x.node(8, 1), 93 - 3);
+        due("the grant of area 1 to area 0", x.worth(1, 0) > 0 ? 1 : 0, 1);
     }
 
     private static void outcomes() {
@@ -307,7 +373,8 @@ public final class PathsTest {
     }
 
     private static void worth() {
-        PrivateLinkRouting x = Check.loaded("node 0;node 1;node 1;node 0;private 0 1 2;link 1 2 9;link 2 0 8;private 3 0 5;");
+        PrivateLinkRouting x = Check.loaded(
+            "node 0;node 1;node 1;node 0;private 0 1 2;link 1 2 9;link 2 0 8;private 3 0 5;");
         // Without the grant 1 to 0 is 17, 2 to 0 is 8, and 3 cannot be reached.
         // With it 1 to 0 is 2, 1 to 3 is 7, 2 to 0 is 8, 2 to 3 is 13; 1 to 2 is 9, as 2 to 1 is, with or without.
         int want = (17 - 2) + (200 - 7) + (200 - 13);
@@ -337,5 +404,7 @@ public final class PathsTest {
         due("the other one is worth", y.worth(2, 1), 0);
         y.setGrant(0, 1, 1);
         due("the other one is worth more", y.worth(2, 1), 190);
+        PrivateLinkRouting z = Check.loaded("node 1;node 0;node 1;private 1 0 5;private 1 2 7;");
+        due("of nodes 0 and 2", z.worth(0, 1), 4 * 200 - 5 - 7 - 12 - 12);
     }
 }

@@ -15,6 +15,7 @@ public final class RoundsTest {
         othersForgetNothing();
         sendersComeByTheirNumbers(2, 3, 0);
         sendersComeByTheirNumbers(3, 2, 2);
+        onAndOffInOneRound();
         lonelyNews();
         settle();
         roundsToQuiet();
@@ -175,20 +176,21 @@ public final class RoundsTest {
     }
 
     /**
-     * The receiver 4 hears in one round that its grant is off (version 2) and that it is on again
-     * (version 3). If off comes first, it forgets the private link; if on comes first, it does not.
+     * Node 4 of area 1 has the grant of area 0, and knows the private link 5, which is down. A fact
+     * about the grant takes two rounds to one of the nodes 2 and 3 ("far"), and one round to the
+     * other one ("near") as soon as link 3 is up again; both are linked to node 4.
      */
-    private static void sendersComeByTheirNumbers(int off, int on, int want) {
+    private static PrivateLinkRouting farAndNear(int far, int near) {
         PrivateLinkRouting x = new PrivateLinkRouting();
         for (int area : new int[] {0, 3, 2, 2, 1}) {
             x.addNode(area);
         }
         x.addLink(0, 1, 1, 0);
-        x.addLink(1, off, 1, 0);
-        x.addLink(off, 4, 1, 0);
-        x.addLink(0, on, 1, 0);
-        x.addLink(on, 4, 1, 0);
-        x.addLink(0, off, 1, 1);
+        x.addLink(1, far, 1, 0);
+        x.addLink(far, 4, 1, 0);
+        x.addLink(0, near, 1, 0);
+        x.addLink(near, 4, 1, 0);
+        x.addLink(0, far, 1, 1);
         x.setGrant(0, 1, 1);
         x.settle();
         x.setLink(5, 0, 1);
@@ -196,19 +198,42 @@ public final class RoundsTest {
         x.setLink(3, 0, 1);
         x.settle();
         due("the private link is known", x.known(4, 21, 0), 2);
+        return x;
+    }
+
+    /** If off comes before on, the private link is forgotten; if on comes first, off is old already. */
+    private static void sendersComeByTheirNumbers(int far, int near, int want) {
+        PrivateLinkRouting x = farAndNear(far, near);
         x.setGrant(0, 1, 0);
         x.step(1);
         x.setGrant(0, 1, 1);
         x.setLink(3, 1, 1);
         x.step(1);
-        due("one sender knows version 2", x.known(off, 1, 0), 2);
-        due("the other one knows version 3", x.known(on, 1, 0), 3);
+        due("one sender knows version 2", x.known(far, 1, 0), 2);
+        due("the other one knows version 3", x.known(near, 1, 0), 3);
         due("the receiver knows version 1", x.known(4, 1, 0), 1);
         x.step(1);
         due("the receiver knows version 3", x.known(4, 1, 0), 3);
         due("the private link behind off and on", x.known(4, 21, 0), want);
         x.settle();
         due("it comes back", x.known(4, 21, 0), 2);
+    }
+
+    private static void onAndOffInOneRound() {
+        PrivateLinkRouting x = farAndNear(2, 3);
+        x.setGrant(0, 1, 0);
+        x.setGrant(0, 1, 1);
+        x.step(1);
+        x.setGrant(0, 1, 0);
+        x.setLink(3, 1, 1);
+        x.step(1);
+        due("one sender knows version 3", x.known(2, 1, 0), 3);
+        due("the other one knows version 4", x.known(3, 1, 0), 4);
+        due("the receiver knows version 1", x.known(4, 1, 0), 1);
+        x.step(1);
+        due("the receiver knows version 4", x.known(4, 1, 0), 4);
+        due("the private link is forgotten", x.known(4, 21, 0), 0);
+        due("with the news that it was by on", x.known(4, 21, 3), 0);
     }
 
     private static void lonelyNews() {

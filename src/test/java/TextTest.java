@@ -6,6 +6,7 @@ public final class TextTest {
         append();
         clearText();
         loadIsAnAction();
+        loadsLeaveNothingBehind();
         loadKeepsOrder();
         spaces();
         numbers();
@@ -91,6 +92,32 @@ public final class TextTest {
         due("states again", x.count(5), 3);
     }
 
+    private static void loadsLeaveNothingBehind() {
+        PrivateLinkRouting x = new PrivateLinkRouting();
+        String wrong = "node 0;node 1;grant 0 1;link 0 1 1;tunnel 0 1 1;";
+        Check.type(x, wrong + "?");
+        due("a wrong text", x.load(), -10 - wrong.length());
+        due("wrong again", x.load(), -10 - wrong.length());
+        x.clearText();
+        Check.type(x, "node 0;node 0;grant 0 1;");
+        due("a right text behind it", x.load(), 3);
+        due("facts", x.node(0, 1), 1);
+        due("news", x.node(0, 2), 1);
+        due("news of the other one", x.node(1, 2), 1);
+        due("the grant's version", x.grant(0, 1, 1), 1);
+        due("links", x.count(1), 0);
+        due("tunnels", x.count(2), 0);
+        x.addLink(0, 1, 1, 0);
+        due("the link's version", x.link(0, 5), 1);
+        due("messages", x.step(1), 4);
+        x.addTunnel(0, 1, 1);
+        x.roundsToQuiet();
+        due("an empty text", x.load(), 0);
+        due("no messages", x.count(4), 0);
+        x.addNode(1);
+        due("no news", x.node(0, 2), 0);
+    }
+
     private static void loadKeepsOrder() {
         PrivateLinkRouting x = Check.loaded("node 0;grant 0 1;node 0;node 1;private 0 2 4;link 2 1 20;tunnel 2 0 40;");
         due("the node before the grant knows it", x.known(0, 1, 0), 1);
@@ -140,6 +167,11 @@ public final class TextTest {
     private static void words() {
         wrongAt("nod", 0);
         wrongAt("nodes 0;", 0);
+        wrongAt("nodez 0;", 0);
+        wrongAt("anode 0;", 0);
+        wrongAt("zode 0;", 0);
+        wrongAt("nide 0;", 0);
+        wrongAt("node 0z", 6);
         wrongAt("  Node 0;", 2);
         wrongAt("nodE 0;", 0);
         wrongAt("; node 0;", 0);
