@@ -14,9 +14,9 @@ public final class RoomTest {
         long made = allocated();
         callAll(second);
         long called = allocated();
-        long reading = allocated() - called;
         check.due("bytes of an object are less than 40000, being " + (made - start), made - start < 40000 ? 1 : 0, 1);
-        check.due("bytes that calls make", called - made - reading, 0);
+        // A thousand bytes are left to the machine itself: one object for each call would be far more.
+        check.due("bytes that calls make are less than 1000, being " + (called - made), called - made < 1000 ? 1 : 0, 1);
         check.end();
     }
 
