@@ -178,11 +178,9 @@ final class HistoryBounds extends Bounds {
 
         says(14, "ILLEGAL_STATE if it is empty.");
         refused(Scene.NEW, ILLEGAL, "a new object", PrivateLinkRouting::undo);
-        Scene emptied = new Scene("all undone", () -> {
-            PrivateLinkRouting z = Scene.FULL.make();
+        Scene emptied = Scene.FULL.after("all undone", z -> {
             undo(z, 5);
             z.send(1, 4);
-            return z;
         });
         refused(emptied, ILLEGAL, "one more", PrivateLinkRouting::undo);
     }
@@ -198,7 +196,7 @@ final class HistoryBounds extends Bounds {
         x.step(2);
         due("two rounds", x.roundsToQuiet(), 1);
 
-        says(11, "Returns the number of messages that are sent in them (in rounds in which the network is quiet already,");
+        says(11, "Returns the number of messages that are sent in them (in rounds in which the network is quiet");
         // First links 0; 0, 1; 1, 2; 2 are news, then 1; 2; 0; 1, then 2 and 0; inner nodes send over two links.
         int[] messages = {10, 16, 18, 18, 18};
         for (int rounds = 1; rounds <= 5; rounds++) {
@@ -267,7 +265,7 @@ final class HistoryBounds extends Bounds {
     }
 
     private void keptWay() {
-        says(23, "Sends a packet, and keeps its way until the next call of send(), of an action or of undo() that returns no error.");
+        says(23, "Sends a packet, and keeps its way until the next call of send(), of an action or of undo() that");
         PrivateLinkRouting x = Scene.BUSY.make();
         due("kept", x.way(0), 2);
         due("another packet", x.send(1, 2), 0);
@@ -291,11 +289,7 @@ final class HistoryBounds extends Bounds {
 
     private void errorsChangeNothing() {
         says(0, "A call that returns an error code changes nothing.");
-        Scene wrong = new Scene("a wrong text", () -> {
-            PrivateLinkRouting x = Scene.BUSY.make();
-            x.append('?');
-            return x;
-        });
+        Scene wrong = Scene.BUSY.after("a wrong text", x -> x.append('?'));
         refused(wrong, -10 - Scene.BUSY_TEXT.length(), "load", PrivateLinkRouting::load);
         refused(Scene.BUSY, INVALID, "send to itself", x -> x.send(2, 2));
         refused(Scene.BUSY, INVALID, "send to nobody", x -> x.send(0, 4));

@@ -121,13 +121,14 @@ final class KnowledgeBounds extends Bounds {
     }
 
     private void learning() {
-        says(0, "if it may not know the item, or the known version is not less than that of the fact, nothing happens.");
+        says(0, "if it may not know the item, or the known version is not less than that of the fact, nothing");
         PrivateLinkRouting x = Check.settled("node 0;node 0;node 1;link 1 2 1;private 0 1 1;");
         x.setLink(1, 1, 2);
         x.step(1);
         dueAll("it may not know the item", fact(x, 2, 17), NO_FACT);
         dueNews("it may not know the item", x, 0, 0, 0);
-        due("the same version: both ends send it, and all is quiet", Check.loaded("node 0;node 0;link 0 1 1;").settle(), 1);
+        due("the same version: both ends send it, and all is quiet",
+            Check.loaded("node 0;node 0;link 0 1 1;").settle(), 1);
         PrivateLinkRouting y = Check.settled("node 0;node 0;node 0;link 0 1 1;link 1 2 1;tunnel 0 2 4;");
         y.setTunnel(0, 1, 5);
         y.step(1);
@@ -174,6 +175,10 @@ final class KnowledgeBounds extends Bounds {
         dueKnown("link 0 before", x, 16, 1, 1, 1, 1);
         dueKnown("link 4 before", x, 20, 1, 1, 1, 1);
         x.setGrant(0, 1, 0);
+        x.step(1);
+        dueNews("the grant is news to the end", x, 0, 1, 0, 0);
+        x.step(1);
+        dueNews("the grant, and nothing else, is news where links are forgotten", x, 0, 0, 1, 0);
         x.settle();
         dueKnown("link 0", x, 16, 1, 1, 0, 1);
         dueKnown("link 4", x, 20, 1, 1, 0, 1);
@@ -185,6 +190,10 @@ final class KnowledgeBounds extends Bounds {
         x.setGrant(0, 1, 1);
         x.settle();
         dueAll("so that version 1 is learned again", fact(x, 2, 16), 1, 1, 1, 0);
+        PrivateLinkRouting full = Scene.FULL.make();
+        full.setGrant(3, 0, 0);
+        full.settle();
+        dueAll("of all links that can be, those of area 3", new int[] {full.node(0, 1), full.node(1, 1)}, 30, 31);
     }
 
     private void grantOffForgetsNews() {
@@ -203,7 +212,7 @@ final class KnowledgeBounds extends Bounds {
     }
 
     private void settingLinks() {
-        says(0, "When a link is added or set, first its first end and then its second end learn the new fact about it.");
+        says(0, "When a link is added or set, first its first end and then its second end learn the new fact about");
         PrivateLinkRouting x = Check.loaded("node 0;node 1;node 0;");
         x.addLink(1, 0, 20, 1);
         dueKnown("added", x, 16, 1, 1, 0);
@@ -233,10 +242,13 @@ final class KnowledgeBounds extends Bounds {
         PrivateLinkRouting y = Check.loaded("node 0;node 0;node 0;");
         y.addLink(0, 2, 1, 1);
         dueNews("added where nothing was known", y, 1, 0, 1);
+        PrivateLinkRouting z = Check.settled("node 0;node 0;node 0;link 1 2 1;link 2 1 1;");
+        z.setLink(1, 1, 2);
+        dueNews("up before and now, though node 0 knows nothing of it", z, 0, 1, 1);
     }
 
     private void settingGrants() {
-        says(0, "all nodes of its first area O learn the new fact about it, in ascending order (all other nodes only in");
+        says(0, "all nodes of its first area O learn the new fact about it, in ascending order (all other nodes only");
         PrivateLinkRouting x = Check.loaded("node 1;node 0;node 1;node 2;link 0 3 1;");
         x.setGrant(1, 2, 1);
         dueKnown("set on", x, 6, 1, 0, 1, 0);

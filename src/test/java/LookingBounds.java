@@ -59,7 +59,7 @@ final class LookingBounds extends Bounds {
         range(Scene.BUSY, 0, 4, (x, what) -> x.node(3, what));
         says(16, "Returns a property of a node.");
         PrivateLinkRouting x = Scene.BUSY.make();
-        // Node 3 knows links 1 and 2, both tunnels and both grants, with tunnel 1 and one grant as news, and link 1 old.
+        // Node 3 knows links 1 (an old fact) and 2, both tunnels and both grants; tunnel 1 and a grant are news.
         dueAll("node 3", answers(5, what -> x.node(3, what)), 2, 6, 2, 1, 0);
         says(16, "Returns the property;");
         PrivateLinkRouting y = Check.loaded("node 3;");
@@ -72,7 +72,7 @@ final class LookingBounds extends Bounds {
     }
 
     private void behind() {
-        says(16, "3 the number of items behind: those with a version greater than the known one that are no private links,");
+        says(16, "3 the number of items behind: those with a version greater than the known one that are no private");
         PrivateLinkRouting x = Check.settled("node 0;node 1;node 1;node 0;private 0 1 2;link 1 2 1;link 1 0 9;");
         due("a private link to which it is not entitled", x.node(2, 3), 0);
         due("all links, for a node alone of the owner's area", x.node(3, 3), 3);
@@ -92,7 +92,7 @@ final class LookingBounds extends Bounds {
     }
 
     private void secrets() {
-        says(16, "4 the number of secrets: private links in its database of which it is no end and to which its area is not");
+        says(16, "4 the number of secrets: private links in its database of which it is no end and to which its area");
         PrivateLinkRouting x = Check.settled(
             "node 0;node 1;node 1;node 2;private 0 1 2;private 0 1 3;link 1 2 1;link 0 3 1;grant 0 1;grant 0 2;");
         dueAll("entitled", answers(4, node -> x.node(node, 4)), 0, 0, 0, 0);

@@ -6,7 +6,7 @@ import java.util.function.Supplier;
 /** All that calls can tell of an object, so that two objects can be compared. */
 final class Looks {
     /** So few looks for each object that it stays below the 512 calls for which the document speaks. */
-    private static final int LOOKS_PER_OBJECT = 300;
+    private static final int LOOKS_PER_OBJECT = 200;
 
     private final Supplier<PrivateLinkRouting> calls;
     private final List<String> seen = new ArrayList<>();

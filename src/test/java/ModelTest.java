@@ -39,7 +39,8 @@ public final class ModelTest {
             build();
         }
         while (calls < CALLS && check.wrongs() == 0) {
-            switch (random.nextInt(7)) {
+            switch (random.nextInt(8)) {
+                case 7 -> disagree();
                 case 6 -> revoke();
                 case 0 -> change();
                 case 1 -> flow();
@@ -127,6 +128,23 @@ public final class ModelTest {
         call("step", 1);
         for (int node = 0; node < model.count(0); node++) {
             call("node", node, 1 + below(4));
+        }
+    }
+
+    /** Costs that all know change much, and only the links' ends know: packets go forth and back. */
+    private void disagree() throws ReflectiveOperationException {
+        call("settle");
+        for (int i = 0; i < 3; i++) {
+            call("setLink", below(model.count(1)), 1, below(2) == 0 ? 1 + below(2) : 19 + below(2));
+        }
+        if (below(3) == 0) {
+            call("setTunnel", below(model.count(2)), 1, 1 + below(2));
+        }
+        for (int result = 0; result < 5; result++) {
+            call("outcomes", result);
+        }
+        for (int i = 0; i < 4; i++) {
+            ship();
         }
     }
 

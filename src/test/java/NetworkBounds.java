@@ -104,7 +104,7 @@ final class NetworkBounds extends Bounds {
         x.undo();
         due("room again", x.addLink(0, 1, 20, 1), 15);
 
-        says(0, "A link has two different nodes as its ends, a first and a second one, and can be used in both directions;");
+        says(0, "A link has two different nodes as its ends, a first and a second one, and can be used in both");
         PrivateLinkRouting y = Check.loaded("node 0;node 0;");
         due("the same node twice", y.addLink(1, 1, 1, 0), INVALID);
         due("two nodes", y.addLink(1, 0, 20, 0), 0);
@@ -279,7 +279,8 @@ final class NetworkBounds extends Bounds {
         PrivateLinkRouting x = Scene.BUSY.make();
         due("the fourth one", x.addLink(3, 0, 20, 1), 3);
         says(3, "Adds a link, which is up.");
-        dueAll("its ends, cost and state", new int[] {x.link(3, 0), x.link(3, 1), x.link(3, 2), x.link(3, 3)}, 3, 0, 20, 1);
+        dueAll("its ends, cost and state",
+            new int[] {x.link(3, 0), x.link(3, 1), x.link(3, 2), x.link(3, 3)}, 3, 0, 20, 1);
         dueAll("private, version", new int[] {x.link(3, 4), x.link(3, 5)}, 1, 1);
         says(3, "INVALID_ARGUMENT if there is no such node, both are the same, or another argument is out of range;");
         refused(Scene.NEW, INVALID, "no node at all", y -> y.addLink(0, 1, 5, 0));
@@ -319,17 +320,14 @@ final class NetworkBounds extends Bounds {
         refused(ONE_NODE, INVALID, "no link at all", y -> y.setLink(0, 0, 1));
         says(4, "ILLEGAL_STATE if it is so already.");
         refused(Scene.BUSY, ILLEGAL, "up, cost 3", y -> y.setLink(0, 1, 3));
+        refused(Scene.BUSY, ILLEGAL, "up, cost 7, as node 0 does not know", y -> y.setLink(1, 1, 7));
+        due("up, cost 4, as node 0 knows it", Scene.BUSY.make().setLink(1, 1, 4), 3);
         due("the cost alone is another one", Scene.BUSY.make().setLink(0, 1, 4), 2);
         due("the state alone is another one", Scene.BUSY.make().setLink(0, 0, 3), 2);
-        Scene down = new Scene("link 0 is down", () -> after(Scene.BUSY.make(), y -> y.setLink(0, 0, 3)));
+        Scene down = Scene.BUSY.after("link 0 is down", y -> y.setLink(0, 0, 3));
         refused(down, ILLEGAL, "down, cost 3", y -> y.setLink(0, 0, 3));
         due("down, the cost alone is another one", down.make().setLink(0, 0, 2), 3);
         due("down, the state alone is another one", down.make().setLink(0, 1, 3), 3);
-    }
-
-    private static PrivateLinkRouting after(PrivateLinkRouting x, java.util.function.Consumer<PrivateLinkRouting> call) {
-        call.accept(x);
-        return x;
     }
 
     private void setGrant() {
@@ -354,6 +352,7 @@ final class NetworkBounds extends Bounds {
         says(5, "ILLEGAL_STATE if it is so already.");
         refused(Scene.NEW, ILLEGAL, "off at first", y -> y.setGrant(0, 1, 0));
         refused(Scene.BUSY, ILLEGAL, "on", y -> y.setGrant(0, 1, 1));
+        refused(Scene.BUSY, ILLEGAL, "on, as node 0 does not know", y -> y.setGrant(2, 3, 1));
         refused(Scene.BUSY, ILLEGAL, "off, though the other way it is on", y -> y.setGrant(1, 0, 0));
     }
 
@@ -406,9 +405,10 @@ final class NetworkBounds extends Bounds {
         refused(ONE_NODE, INVALID, "no tunnel at all", y -> y.setTunnel(0, 0, 1));
         says(7, "ILLEGAL_STATE if it is so already.");
         refused(Scene.BUSY, ILLEGAL, "up, cost 6", y -> y.setTunnel(0, 1, 6));
+        refused(Scene.BUSY, ILLEGAL, "up, cost 2, as node 0 does not know", y -> y.setTunnel(1, 1, 2));
         due("the cost alone is another one", Scene.BUSY.make().setTunnel(0, 1, 7), 2);
         due("the state alone is another one", Scene.BUSY.make().setTunnel(0, 0, 6), 2);
-        Scene down = new Scene("tunnel 1 is down", () -> after(Scene.BUSY.make(), y -> y.setTunnel(1, 0, 2)));
+        Scene down = Scene.BUSY.after("tunnel 1 is down", y -> y.setTunnel(1, 0, 2));
         refused(down, ILLEGAL, "down, cost 2", y -> y.setTunnel(1, 0, 2));
         due("down, the cost alone is another one", down.make().setTunnel(1, 0, 1), 3);
         due("down, the state alone is another one", down.make().setTunnel(1, 1, 2), 3);

@@ -27,10 +27,11 @@ final class PathsBounds extends Bounds {
     }
 
     private void views() {
-        says(0, "consists of the links in its database that are up by the fact about them, with the costs of these facts,");
+        says(0, "consists of the links in its database that are up by the fact about them, with the costs of these");
         PrivateLinkRouting x = Check.settled("node 0;node 0;node 0;link 0 1 2;link 1 2 3;link 0 2 20;tunnel 2 0 1;");
         x.setLink(1, 0, 3);
-        dueAll("down, as an end knows, and as node 0 does not", new int[] {x.distance(1, 2, 0), x.distance(0, 2, 0)}, 22, 5);
+        dueAll("down, as an end knows, and as node 0 does not",
+            new int[] {x.distance(1, 2, 0), x.distance(0, 2, 0)}, 22, 5);
         x.settle();
         due("as node 0 knows", x.distance(0, 2, 0), 20);
         x.setLink(1, 1, 1);
@@ -40,7 +41,7 @@ final class PathsBounds extends Bounds {
         x.setTunnel(0, 1, 40);
         due("a tunnel's cost", x.distance(2, 0, 0), 3);
 
-        says(0, "A private link belongs to it only if its owner is A, or if the database has the fact that the grant of");
+        says(0, "A private link belongs to it only if its owner is A, or if the database has the fact that the grant");
         PrivateLinkRouting y = Check.settled("node 0;node 1;node 1;private 0 1 2;link 0 1 9;link 1 2 1;grant 0 2;");
         int[] views = {y.distance(0, 1, 0), y.distance(0, 1, 1), y.distance(0, 1, 2), y.distance(0, 1, 3)};
         dueAll("node 0's views for all areas", views, 2, 9, 2, 9);
@@ -55,7 +56,8 @@ final class PathsBounds extends Bounds {
 
     private void paths() {
         says(0, "The path from a node to another one in a view (for A) is the one with the smallest sum of costs;");
-        PrivateLinkRouting x = Check.settled("node 0;node 0;node 0;node 0;link 0 1 1;link 1 2 1;link 2 3 1;link 0 3 4;");
+        PrivateLinkRouting x = Check.settled(
+            "node 0;node 0;node 0;node 0;link 0 1 1;link 1 2 1;link 2 3 1;link 0 3 4;");
         dueAll("three links for 3, not one for 4", new int[] {x.next(0, 3, 0, 0), x.distance(0, 3, 0)}, 1, 3);
         says(0, "of several, the one with the fewest links and tunnels;");
         x.setLink(3, 1, 3);
@@ -65,8 +67,10 @@ final class PathsBounds extends Bounds {
         dueAll("a tunnel and a link for 3", new int[] {x.next(0, 3, 0, 1), x.distance(0, 3, 0)}, 32, 3);
 
         says(0, "of several, the one whose sequence of nodes is lexicographically smallest;");
-        PrivateLinkRouting y = Check.settled("node 0;node 0;node 0;node 0;link 0 2 1;link 2 3 2;link 1 3 1;link 0 1 2;");
-        dueAll("by node 1, though its link is later and dearer", new int[] {y.next(0, 3, 0, 0), y.next(0, 3, 0, 1)}, 1, 19);
+        PrivateLinkRouting y = Check.settled(
+            "node 0;node 0;node 0;node 0;link 0 2 1;link 2 3 2;link 1 3 1;link 0 1 2;");
+        dueAll("by node 1, though its link is later and dearer",
+            new int[] {y.next(0, 3, 0, 0), y.next(0, 3, 0, 1)}, 1, 19);
         dueAll("and back", new int[] {y.next(3, 0, 0, 0), y.next(3, 0, 0, 1)}, 1, 18);
         // Node 1 comes second at best: node 3 is a smaller first step than node 4, whatever comes behind it.
         PrivateLinkRouting z = Check.settled(
@@ -74,8 +78,9 @@ final class PathsBounds extends Bounds {
         due("the first node that differs counts", z.next(0, 5, 0, 0), 3);
         due("back: by node 1, not by node 2", z.next(5, 0, 0, 0), 1);
 
-        says(0, "if there are several items from a node to the next one with which all this holds, the one with the smallest");
-        PrivateLinkRouting w = Check.settled("node 0;node 0;link 0 1 5;link 1 0 4;link 0 1 4;tunnel 0 1 4;tunnel 0 1 4;");
+        says(0, "if there are several items from a node to the next one with which all this holds, the one with the");
+        PrivateLinkRouting w = Check.settled(
+            "node 0;node 0;link 0 1 5;link 1 0 4;link 0 1 4;tunnel 0 1 4;tunnel 0 1 4;");
         dueAll("of the cheapest, the first", new int[] {w.next(0, 1, 0, 1), w.next(1, 0, 0, 1)}, 17, 17);
         w.setLink(1, 1, 5);
         due("then the second", w.next(0, 1, 0, 1), 18);
@@ -124,7 +129,7 @@ final class PathsBounds extends Bounds {
         range(Scene.BUSY, 0, 3, (x, area) -> x.next(2, 0, area, 0));
         says(22, "part: 0 the next node, 1 the item that leads there");
         range(Scene.BUSY, 0, 1, (x, part) -> x.next(2, 0, 1, part));
-        says(22, "Returns a part of the first step of the path from a node to another one in the view of the first one.");
+        says(22, "Returns a part of the first step of the path from a node to another one in the view of the first");
         PrivateLinkRouting line = line("");
         dueAll("along a line", new int[] {line.next(0, 9, 0, 0), line.next(0, 9, 0, 1)}, 1, 16);
         dueAll("back", new int[] {line.next(9, 0, 0, 0), line.next(9, 0, 0, 1)}, 8, 24);
@@ -145,12 +150,13 @@ final class PathsBounds extends Bounds {
 
     private void packets() {
         says(0, "A packet that is sent from a node to another one has the area A of the first node.");
-        PrivateLinkRouting x = Check.settled("node 0;node 1;node 0;node 0;link 0 1 1;private 0 2 3;link 0 2 9;link 2 3 1;");
+        PrivateLinkRouting x = Check.settled(
+            "node 0;node 1;node 0;node 0;link 0 1 1;private 0 2 3;link 0 2 9;link 2 3 1;");
         dueAll("area 1's packet at node 0", new int[] {x.send(1, 2), x.way(-2)}, 0, 10);
         dueAll("area 0's packet at node 0", new int[] {x.send(3, 1), x.way(-2)}, 0, 5);
         says(0, "It is at this node at first.");
         due("way 0", x.way(0), 3);
-        says(0, "At each node that is not its target, the node takes the first item of the path from it to the target in");
+        says(0, "At each node that is not its target, the node takes the first item of the path from it to the target");
         dueAll("nodes on its way", new int[] {x.way(1), x.way(2), x.way(3), x.way(4)}, 2, 0, 1, NONE);
         says(0, "Otherwise it crosses the link to the other end;");
         due("links", x.way(-1), 3);
@@ -174,7 +180,8 @@ final class PathsBounds extends Bounds {
 
     private void denied() {
         says(0, "3 DENIED the item is a private link, and A is not entitled to it (by the grants themselves)");
-        PrivateLinkRouting x = Check.settled("node 0;node 1;node 1;node 0;private 0 1 3;link 1 2 4;link 3 0 1;grant 0 1;");
+        PrivateLinkRouting x = Check.settled(
+            "node 0;node 1;node 1;node 0;private 0 1 3;link 1 2 4;link 3 0 1;grant 0 1;");
         due("entitled", x.send(2, 0), 0);
         x.setGrant(0, 1, 0);
         dueAll("not entitled", new int[] {x.send(2, 0), x.way(-1), x.way(-2), x.way(1)}, 3, 1, 4, 1);
@@ -188,19 +195,23 @@ final class PathsBounds extends Bounds {
     }
 
     private void tunnels() {
-        says(0, "until it is at the exit, the exit is its target, its area is the area of the entry, and tunnels do not");
+        says(0, "until it is at the exit, the exit is its target, its area is the area of the entry, and tunnels do");
         PrivateLinkRouting x = Check.settled("node 0;node 0;node 0;link 0 1 5;link 1 2 1;tunnel 0 2 1;");
         dueAll("through its target, to the exit, and back", new int[] {x.send(0, 1), x.way(-1), x.way(2)}, 0, 3, 2);
+        PrivateLinkRouting zero = Check.settled("node 0;node 0;node 0;link 1 2 5;link 2 0 1;tunnel 1 0 1;link 0 1 20;");
+        dueAll("the exit is node 0", new int[] {zero.send(1, 2), zero.way(-1), zero.way(2), zero.way(3)}, 0, 3, 0, 2);
         PrivateLinkRouting y = Check.settled("node 0;node 0;node 1;private 0 1 7;link 0 2 2;tunnel 0 1 3;");
         dueAll("over the entry's private link", new int[] {y.send(2, 1), y.way(-1)}, 0, 2);
         PrivateLinkRouting z = Check.settled("node 0;node 0;node 0;link 0 1 5;tunnel 0 2 1;tunnel 1 2 1;");
         dueAll("no tunnel inside of a tunnel", new int[] {z.send(0, 2), z.way(-1)}, 1, 0);
 
-        says(0, "The cost of its way is the sum of the costs (as they are) of all links that it has crossed, also within");
+        says(0, "The cost of its way is the sum of the costs (as they are) of all links that it has crossed, also");
         y.send(2, 1);
         due("both links", y.way(-2), 9);
         y.setLink(0, 1, 20);
         dueAll("before all know of the new cost", new int[] {y.send(2, 1), y.way(-2)}, 0, 22);
+        PrivateLinkRouting alone = Check.settled("node 0;node 0;node 0;link 1 2 7;");
+        dueAll("where node 0 knows nothing", new int[] {alone.send(2, 1), alone.way(-2)}, 0, 7);
         says(0, "tunnels themselves cost nothing there.");
         y.setTunnel(0, 1, 40);
         dueAll("a dear tunnel", new int[] {y.send(2, 1), y.way(-2)}, 0, 22);
@@ -246,6 +257,11 @@ final class PathsBounds extends Bounds {
         x.setLink(1, 1, 20);
         dueAll("forth and back", new int[] {x.send(0, 2), x.way(-1), x.way(-2), x.outcomes(4)}, 4, 20, 40, 2);
         dueAll("the last nodes", new int[] {x.way(19), x.way(20), x.way(21)}, 1, 0, NONE);
+        PrivateLinkRouting y = Check.settled(
+            "node 0;node 0;node 0;link 0 1 5;link 0 2 10;link 1 2 10;tunnel 0 1 1;tunnel 1 0 1;");
+        y.setLink(1, 1, 20);
+        y.setLink(2, 1, 20);
+        dueAll("each link in a tunnel of its own", new int[] {y.send(0, 2), y.way(-1), y.way(-2)}, 4, 20, 100);
     }
 
     /**
@@ -309,7 +325,7 @@ final class PathsBounds extends Bounds {
     }
 
     private void way() {
-        says(24, "index: 0 for the node from which it was sent, 1 for the other end of the first link that it crossed,");
+        says(24, "index: 0 for the node from which it was sent, 1 for the other end of the first link that it");
         PrivateLinkRouting x = Check.settled("node 0;node 1;node 2;link 0 1 3;link 1 2 4;");
         x.send(2, 0);
         says(24, "Returns a part of the way of the latest packet.");
@@ -321,7 +337,8 @@ final class PathsBounds extends Bounds {
         y.send(2, 0);
         dueAll("no link was crossed", new int[] {y.way(-2), y.way(-1), y.way(0), y.way(1)}, 0, 0, 2, NONE);
         y.send(1, 0);
-        dueAll("one link was crossed", new int[] {y.way(-2), y.way(-1), y.way(0), y.way(1), y.way(2)}, 20, 1, 1, 0, NONE);
+        dueAll("one link was crossed",
+            new int[] {y.way(-2), y.way(-1), y.way(0), y.way(1), y.way(2)}, 20, 1, 1, 0, NONE);
         says(24, "INVALID_ARGUMENT if index is less than -2;");
         refused(Scene.BUSY, INVALID, "-3", z -> z.way(-3));
         refused(Scene.BUSY, INVALID, "the least", z -> z.way(Integer.MIN_VALUE));
@@ -364,7 +381,7 @@ final class PathsBounds extends Bounds {
         range(Scene.BUSY, 0, 3, (x, to) -> x.ideal(1, to));
         says(26, "the same one for 0");
         dueAll("the same", new int[] {ONE_NODE.make().ideal(0, 0), APART.make().ideal(2, 2)}, 0, 0);
-        says(26, "where all links that are up may be used, private ones only if the area of the first node is entitled to");
+        says(26, "where all links that are up may be used, private ones only if the area of the first node is");
         PrivateLinkRouting x = Check.loaded("node 0;node 1;node 0;private 0 1 2;link 1 2 9;link 2 0 8;tunnel 1 0 1;");
         dueAll("the owner's nodes, and another", new int[] {x.ideal(0, 1), x.ideal(2, 1), x.ideal(1, 0)}, 2, 9, 17);
         x.setGrant(0, 1, 1);
@@ -388,7 +405,7 @@ final class PathsBounds extends Bounds {
         range(Scene.NEW, 0, 3, (x, owner) -> x.worth(owner, 2));
         says(27, "area: another area");
         range(Scene.BUSY, 0, 3, (x, area) -> x.worth(1, area));
-        says(27, "over all ordered pairs of different nodes of which the first one belongs to the area that has the grant,");
+        says(27, "over all ordered pairs of different nodes of which the first one belongs to the area that has the");
         PrivateLinkRouting x = Check.loaded(
             "node 0;node 1;node 1;node 0;private 0 1 2;link 1 2 9;link 2 0 8;private 3 0 5;");
         // From 1 to 0: 17 and 2; from 1 and 2 to 3: none, and 7 and 13; the others are as they are.
@@ -401,10 +418,18 @@ final class PathsBounds extends Bounds {
         due("never a way", Check.loaded("node 0;node 1;").worth(0, 1), 0);
         says(27, "Returns the sum;");
         due("a star of nine around the owner", star().worth(0, 1), 81 * 200 - 9 * (1 + 8 * 2));
+        PrivateLinkRouting y = Check.loaded("node 1;node 0;node 2;private 1 0 5;private 2 1 5;");
+        dueAll("two owners: each of them alone", new int[] {y.worth(0, 1), y.worth(2, 1)}, 195, 0);
+        y.setGrant(2, 1, 1);
+        dueAll("the other grant is as it is: on", new int[] {y.worth(0, 1), y.worth(2, 1)}, 195 + 190, 0);
+        y.setGrant(0, 1, 1);
+        dueAll("both are on", new int[] {y.worth(0, 1), y.worth(2, 1)}, 195 + 190, 190);
+        y.setGrant(0, 2, 1);
+        dueAll("another area's grant counts there", new int[] {y.worth(0, 1), y.worth(2, 1)}, 195 + 190, 190);
         says(27, "INVALID_ARGUMENT if an argument is out of range, or both areas are the same.");
         for (int area = 0; area < 4; area++) {
             int same = area;
-            refused(Scene.BUSY, INVALID, "both are area " + area, y -> y.worth(same, same));
+            refused(Scene.BUSY, INVALID, "both are area " + area, z -> z.worth(same, same));
         }
     }
 

@@ -1,10 +1,8 @@
-/** Promises 11 to 14: rounds, and undo. */
+/** Stories of how facts spread, are disclosed and are forgotten, and of undo. */
 public final class RoundsTest {
     private static final Check CHECK = new Check("RoundsTest");
 
     public static void main(String[] args) {
-        step();
-        stepAnswersItsMessages();
         messagesGoOverEachLink();
         messagesAreSentAtTheSameTime();
         linksThatAreDownCarryNothing();
@@ -13,50 +11,12 @@ public final class RoundsTest {
         grantsAreRevoked();
         endsForgetNothing();
         othersForgetNothing();
-        sendersComeByTheirNumbers(2, 3, 0);
-        sendersComeByTheirNumbers(3, 2, 2);
-        onAndOffInOneRound();
-        lonelyNews();
-        settle();
-        roundsToQuiet();
-        undo();
         undoRestoresAll();
         CHECK.end();
     }
 
     private static void due(String what, int got, int want) {
         CHECK.due(what, got, want);
-    }
-
-    private static void step() {
-        PrivateLinkRouting x = Check.loaded("node 0;node 0;node 0;node 0;link 0 1 1;link 1 2 1;link 2 3 1;");
-        due("step(0)", x.step(0), -1);
-        due("step(41)", x.step(41), -1);
-        due("step(-1)", x.step(-1), -1);
-        due("an error is no action", x.count(5), 1);
-        // News: node 0 has link 0; 1 has 0, 1; 2 has 1, 2; 3 has 2. Inner nodes send them over two links.
-        due("the first round", x.step(1), 1 + 4 + 4 + 1);
-        due("node 0 knows link 1", x.known(0, 17, 0), 1);
-        due("but not link 2", x.known(0, 18, 0), 0);
-        due("node 3 does not know link 0", x.known(3, 16, 0), 0);
-        due("link 1 is news at node 0", x.known(0, 17, 3), 1);
-        due("link 0 is not", x.known(0, 16, 3), 0);
-        // Node 0 has link 1 as news, 1 has 2, 2 has 0, 3 has 1.
-        due("the rest", x.step(40), 1 + 2 + 2 + 1 + 1 + 1);
-        due("messages in all", x.count(4), 18);
-        due("quiet", x.step(1), -2);
-        due("out of range comes first", x.step(0), -1);
-        due("step is an action", x.count(5), 3);
-        due("node 0 knows all", x.node(0, 1), 3);
-        due("nothing is behind", x.node(3, 3), 0);
-    }
-
-    private static void stepAnswersItsMessages() {
-        PrivateLinkRouting x = Check.loaded("node 0;node 0;link 0 1 1;");
-        due("both ends send it", x.step(2), 2);
-        x.setLink(0, 1, 2);
-        due("again", x.step(2), 2);
-        due("all messages", x.count(4), 4);
     }
 
     private static void messagesGoOverEachLink() {
@@ -173,122 +133,6 @@ public final class RoundsTest {
         due("area 1 forgets it", x.known(3, 16, 0), 0);
         due("area 2 knows that area 1 has no grant", x.known(2, 1, 1), 0);
         due("area 1 keeps links of other owners", x.known(3, 17, 0), 1);
-    }
-
-    /**
-     * Node 4 of area 1 has the grant of area 0, and knows the private link 5, which is down. A fact
-     * about the grant takes two rounds to one of the nodes 2 and 3 ("far"), and one round to the
-     * other one ("near") as soon as link 3 is up again; both are linked to node 4.
-     */
-    private static PrivateLinkRouting farAndNear(int far, int near) {
-        PrivateLinkRouting x = new PrivateLinkRouting();
-        for (int area : new int[] {0, 3, 2, 2, 1}) {
-            x.addNode(area);
-        }
-        x.addLink(0, 1, 1, 0);
-        x.addLink(1, far, 1, 0);
-        x.addLink(far, 4, 1, 0);
-        x.addLink(0, near, 1, 0);
-        x.addLink(near, 4, 1, 0);
-        x.addLink(0, far, 1, 1);
-        x.setGrant(0, 1, 1);
-        x.settle();
-        x.setLink(5, 0, 1);
-        x.settle();
-        x.setLink(3, 0, 1);
-        x.settle();
-        due("the private link is known", x.known(4, 21, 0), 2);
-        return x;
-    }
-
-    /** If off comes before on, the private link is forgotten; if on comes first, off is old already. */
-    private static void sendersComeByTheirNumbers(int far, int near, int want) {
-        PrivateLinkRouting x = farAndNear(far, near);
-        x.setGrant(0, 1, 0);
-        x.step(1);
-        x.setGrant(0, 1, 1);
-        x.setLink(3, 1, 1);
-        x.step(1);
-        due("one sender knows version 2", x.known(far, 1, 0), 2);
-        due("the other one knows version 3", x.known(near, 1, 0), 3);
-        due("the receiver knows version 1", x.known(4, 1, 0), 1);
-        x.step(1);
-        due("the receiver knows version 3", x.known(4, 1, 0), 3);
-        due("the private link behind off and on", x.known(4, 21, 0), want);
-        x.settle();
-        due("it comes back", x.known(4, 21, 0), 2);
-    }
-
-    private static void onAndOffInOneRound() {
-        PrivateLinkRouting x = farAndNear(2, 3);
-        x.setGrant(0, 1, 0);
-        x.setGrant(0, 1, 1);
-        x.step(1);
-        x.setGrant(0, 1, 0);
-        x.setLink(3, 1, 1);
-        x.step(1);
-        due("one sender knows version 3", x.known(2, 1, 0), 3);
-        due("the other one knows version 4", x.known(3, 1, 0), 4);
-        due("the receiver knows version 1", x.known(4, 1, 0), 1);
-        x.step(1);
-        due("the receiver knows version 4", x.known(4, 1, 0), 4);
-        due("the private link is forgotten", x.known(4, 21, 0), 0);
-        due("with the news that it was by on", x.known(4, 21, 3), 0);
-    }
-
-    private static void lonelyNews() {
-        PrivateLinkRouting x = Check.loaded("node 0;node 1;tunnel 0 1 1;");
-        due("not quiet", x.roundsToQuiet(), 1);
-        due("a round without messages", x.step(5), 0);
-        due("quiet", x.settle(), -2);
-        due("it is known", x.known(0, 32, 0), 1);
-        due("it is no news", x.known(0, 32, 3), 0);
-    }
-
-    private static void settle() {
-        PrivateLinkRouting x = Check.loaded("node 0;node 0;node 0;node 0;link 0 1 1;link 1 2 1;link 2 3 1;");
-        due("settle", x.settle(), 3);
-        due("messages", x.count(4), 18);
-        due("quiet", x.settle(), -2);
-        due("settle is an action", x.count(5), 2);
-        x.undo();
-        due("no messages after undo", x.count(4), 0);
-        due("settle again", x.settle(), 3);
-    }
-
-    private static void roundsToQuiet() {
-        PrivateLinkRouting x = Check.loaded("node 0;node 0;node 0;node 0;link 0 1 1;link 1 2 1;link 2 3 1;");
-        x.send(0, 1);
-        due("rounds", x.roundsToQuiet(), 3);
-        due("nothing is sent", x.count(4), 0);
-        due("nothing is learned", x.known(0, 17, 0), 0);
-        due("no action", x.count(5), 1);
-        due("the way is kept", x.way(-1), 1);
-        x.step(1);
-        due("rounds after one", x.roundsToQuiet(), 2);
-        x.step(2);
-        due("rounds after all", x.roundsToQuiet(), 0);
-    }
-
-    private static void undo() {
-        PrivateLinkRouting x = new PrivateLinkRouting();
-        due("nothing to undo", x.undo(), -2);
-        for (int i = 0; i < 7; i++) {
-            x.addNode(i % 4);
-            due("states", x.count(5), Math.min(5, i + 1));
-        }
-        for (int left = 4; left >= 0; left--) {
-            due("undo", x.undo(), left);
-            due("nodes", x.count(0), left + 2);
-        }
-        due("no more", x.undo(), -2);
-        due("the oldest states are lost", x.count(0), 2);
-        x.addNode(3);
-        x.addNode(2);
-        x.undo();
-        x.addNode(1);
-        due("the area of the later one", x.node(3, 0), 1);
-        due("states again", x.count(5), 2);
     }
 
     private static void undoRestoresAll() {

@@ -1,4 +1,5 @@
 import java.util.List;
+import java.util.function.Consumer;
 import java.util.function.Supplier;
 
 /** An object as it is after the same calls each time; a new one is made for each test. */
@@ -22,6 +23,11 @@ final class Scene {
     Scene(String name, Supplier<PrivateLinkRouting> calls) {
         this.name = name;
         this.calls = calls;
+    }
+
+    /** The same calls, and then some more. */
+    Scene after(String what, Consumer<PrivateLinkRouting> call) {
+        return new Scene(name + ", " + what, Looks.after(calls, call));
     }
 
     String name() {

@@ -23,6 +23,9 @@ final class Sentences {
     private final List<Sentence> quotes = new ArrayList<>();
 
     Sentences() throws IOException {
+        if (!Files.isReadable(DOCUMENT)) {
+            return;
+        }
         int promise = -1;
         for (String line : Files.readAllLines(DOCUMENT)) {
             if (line.startsWith("## ")) {
@@ -59,6 +62,10 @@ final class Sentences {
 
     /** Each quote is a part of just one sentence, and each sentence has one. */
     void checkQuotes(Check check) {
+        if (sentences.isEmpty()) {
+            System.out.println("no document to compare the quotes with: " + DOCUMENT);
+            return;
+        }
         Set<Sentence> silent = new LinkedHashSet<>(sentences);
         for (Sentence quote : quotes) {
             List<Sentence> found = sentences.stream()

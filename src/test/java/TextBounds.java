@@ -10,9 +10,8 @@ final class TextBounds extends Bounds {
         {"node", "3", ";"}, {"link", "1", "0", "20", ";"}, {"private", "0", "1", "1", ";"}, {"grant", "3", "1", ";"},
         {"tunnel", "1", "0", "40", ";"}
     };
-    private static final String[] NO_WORDS = {
-        "nod", "nodes", "anode", "Node", "nodE", "links", "privat", "gran", "tunnels", "area", "x", "z", "nodelink"
-    };
+    private static final String[] WORDS = {"node", "link", "private", "grant", "tunnel"};
+    private static final String[] NO_WORDS = {"area", "public", "x", "a", "z", "nodenode", "nodelink", "Node", "NODE"};
     private static final String[] NO_TOKENS = {
         "?", ",", ":", "-", "+", "/", "@", "[", "`", "{", "A", "Z", "\t", "\n", "\u0001", "\u007f", "\u00e9", "\u00ff"
     };
@@ -122,11 +121,17 @@ final class TextBounds extends Bounds {
     }
 
     private void loadWhatIsNoNetwork() {
-        says(10, "-10 minus the error position if the text is not a network (then nothing changes, and the text is kept).");
-        for (String text : new String[] {"?", "node 0;node 1;link 0 1 1;tunnel 0 1 1;grant 0 1;node", ";".repeat(120)}) {
-            Scene scene = new Scene("the text " + text, () -> withText(Scene.QUIET.make(), text));
-            int position = text.startsWith("node") ? text.length() : 0;
+        says(10, "-10 minus the error position if the text is not a network (then nothing changes, and the text is");
+        String begun = "node 0;node 1;link 0 1 1;tunnel 0 1 1;grant 0 1;node";
+        for (String text : new String[] {"?", begun, ";".repeat(120)}) {
+            Scene scene = Scene.QUIET.after("the text " + text, x -> withText(x, text));
+            int position = text.equals(begun) ? text.length() : 0;
             refused(scene, -10 - position, "load", PrivateLinkRouting::load);
+            Scene refused = scene.after("refused", PrivateLinkRouting::load);
+            due("wrong once more", refused.make().load(), -10 - position);
+            Scene mended = refused.after("mended", x -> withText(x, Scene.BUSY_TEXT).load());
+            dueSame("behind it, another text", Looks.atNetwork(mended::make),
+                Looks.atNetwork(() -> Check.loaded(Scene.BUSY_TEXT)));
         }
     }
 
@@ -137,7 +142,7 @@ final class TextBounds extends Bounds {
     }
 
     private void sameAsCalls() {
-        says(0, "They have the same effect, in their order, as calls of addNode(), addLink() (public or private), setGrant() with 1,");
+        says(0, "They have the same effect, in their order, as calls of addNode(), addLink() (public or private),");
         String text = "node 0;grant 0 1;node 0;node 1;private 0 2 1;link 2 1 20;tunnel 2 0 40;grant 1 0;private 2 1 2;";
         List<String> want = Looks.atNetwork(() -> {
             PrivateLinkRouting x = new PrivateLinkRouting();
@@ -153,11 +158,11 @@ final class TextBounds extends Bounds {
             return x;
         });
         dueSame("on a new object", Looks.atNetwork(() -> Check.loaded(text)), want);
-        dueSame("on a full object, beginning with a network as at first", Looks.atNetwork(() -> {
-            PrivateLinkRouting x = withText(Scene.FULL.make(), text);
-            x.load();
-            return x;
-        }), want);
+        Scene full = Scene.FULL.after("loaded", x -> {
+            x.roundsToQuiet();
+            withText(x, text).load();
+        });
+        dueSame("on a full object, beginning with a network as at first", Looks.atNetwork(full::make), want);
     }
 
     private void loads(String text, int items) {
@@ -178,7 +183,7 @@ final class TextBounds extends Bounds {
         wrongAt("node 0;;", 7);
         wrongAt("node 0,", 6);
 
-        says(0, "\"node\" AREA \"link\" NODE NODE COST \"private\" NODE NODE COST \"grant\" OWNER AREA \"tunnel\" NODE NODE COST");
+        says(0, "\"node\" AREA \"link\" NODE NODE COST \"private\" NODE NODE COST \"grant\" OWNER AREA \"tunnel\"");
         for (String[] item : ITEMS) {
             loads(text(" ", item), 4);
             loads(text("   ", item), 4);
@@ -194,6 +199,17 @@ final class TextBounds extends Bounds {
         loads("node0;node3;link0 1 1;", 3);
         wrongAt("nodenode 0;", 0);
         wrongAt("no de 0;", 0);
+        for (String word : WORDS) {
+            for (int i = 0; i < word.length(); i++) {
+                wrongAt("s" + word.substring(0, i) + " 0;", 0);
+                wrongAt(word.substring(0, i) + word.substring(i + 1) + " 0;", 0);
+                wrongAt(word.substring(0, i) + "z" + word.substring(i + 1) + " 0;", 0);
+                wrongAt(word.substring(0, i) + "Z" + word.substring(i + 1) + " 0;", 0);
+                wrongAt(word.substring(0, i) + "e" + word.substring(i) + " 0;", 0);
+            }
+            wrongAt(word + "s 0;", 0);
+            wrongAt(word, word.length());
+        }
         wrongAt("node 0;node 0;link 01 1;", 19);
         wrongAt("node 0node 0;", 6);
         wrongAt("node 0;node 0;link 0 1 1 0;", 25);
@@ -237,7 +253,7 @@ final class TextBounds extends Bounds {
 
     /** Each character there is, at the beginning of an item, behind a word, and behind a number. */
     private void everyCharacter() {
-        says(0, "because it is another word, another character, a number out of its range or of a node that does not exist,");
+        says(0, "because it is another word, another character, a number out of its range or of a node that does not");
         for (int code = 1; code <= 255; code++) {
             char sign = (char) code;
             boolean isDigit = sign >= '0' && sign <= '9';
@@ -284,7 +300,7 @@ final class TextBounds extends Bounds {
     }
 
     private void errorPositions() {
-        says(0, "The error position is the offset (from 0) of the first character of the first token that is not allowed");
+        says(0, "The error position is the offset (from 0) of the first character of the first token that is not");
         for (String[] item : ITEMS) {
             wrongTokens(item, 0, NO_WORDS);
             wrongTokens(item, 0, NO_TOKENS);
@@ -293,7 +309,7 @@ final class TextBounds extends Bounds {
                 wrongTokens(item, place, NO_WORDS);
                 wrongTokens(item, place, NO_TOKENS);
                 wrongTokens(item, place, NO_NUMBERS);
-                wrongTokens(item, place, "node", "link", "private", "grant", "tunnel");
+                wrongTokens(item, place, WORDS);
                 wrongTokens(item, place, place + 1 < item.length ? ";" : "1");
             }
         }
