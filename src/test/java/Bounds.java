@@ -24,7 +24,7 @@ abstract class Bounds {
         int with(PrivateLinkRouting x, int value);
     }
 
-    /** From here on, answers are due by this sentence of a promise; 0 is the description. */
+    /** From here on, answers are due by this sentence of a promise; 0 is what stands outside of them. */
     final void says(int promise, String words) {
         sentences.quote(promise, words);
         sentence = promise + " '" + words + "': ";

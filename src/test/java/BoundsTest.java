@@ -5,6 +5,7 @@ public final class BoundsTest {
     public static void main(String[] args) throws IOException {
         Check check = new Check("BoundsTest");
         Sentences sentences = new Sentences();
+        new WholeBounds(check, sentences).run();
         new NetworkBounds(check, sentences).run();
         new KnowledgeBounds(check, sentences).run();
         new TextBounds(check, sentences).run();

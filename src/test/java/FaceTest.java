@@ -1,10 +1,16 @@
+import java.io.IOException;
 import java.lang.reflect.Constructor;
 import java.lang.reflect.Field;
 import java.lang.reflect.Method;
 import java.lang.reflect.Modifier;
+import java.nio.file.Files;
+import java.nio.file.Path;
+import java.util.List;
 import java.util.Map;
 import java.util.TreeMap;
 import java.util.TreeSet;
+import java.util.regex.Matcher;
+import java.util.regex.Pattern;
 
 /** The public face, and nothing beside it. */
 public final class FaceTest {
@@ -14,7 +20,7 @@ public final class FaceTest {
         "grant/3", "known/3", "distance/3", "next/4", "send/2", "way/1", "outcomes/1", "ideal/2", "worth/2"
     };
 
-    public static void main(String[] args) throws ReflectiveOperationException {
+    public static void main(String[] args) throws IOException, ReflectiveOperationException {
         Check check = new Check("FaceTest");
         Class<?> type = PrivateLinkRouting.class;
         check.due("public final", type.getModifiers() & (Modifier.PUBLIC | Modifier.FINAL),
@@ -32,7 +38,31 @@ public final class FaceTest {
             check.due(inside.getName() + " is static", Modifier.isStatic(inside.getModifiers()) ? 1 : 0, 1);
             check.due(inside.getName() + " is public", Modifier.isPublic(inside.getModifiers()) ? 1 : 0, 0);
         }
+        checkWords(check, Files.readString(Path.of("../shared/DOC.md")));
         check.end();
+    }
+
+    /** The document lists the face, and heads each promise with a signature; the source has the same words. */
+    private static void checkWords(Check check, String document) throws IOException {
+        String source = Files.readString(Path.of("src/main/java/PrivateLinkRouting.java"));
+        List<String> lines = source.lines().map(String::trim).filter(line -> line.startsWith("public ")).toList();
+        Matcher face = Pattern.compile("```java\n(.*?)```", Pattern.DOTALL).matcher(document);
+        check.due("the document has a face", face.find() ? 1 : 0, 1);
+        List<String> due = face.group(1).lines().map(String::trim).filter(line -> !line.equals("}"))
+            .map(line -> line.replaceFirst("\\);$", ") {")).toList();
+        check.due("public lines", lines.size(), due.size());
+        for (int i = 0; i < due.size() && i < lines.size(); i++) {
+            boolean isDue = lines.get(i).equals(due.get(i));
+            check.due("'" + lines.get(i) + "' where due is '" + due.get(i) + "'", isDue ? 1 : 0, 1);
+        }
+        Matcher promise = Pattern.compile("## Promise (\\d+): .*\n\n`(.*)`\n").matcher(document);
+        int promises = 0;
+        while (promise.find()) {
+            promises++;
+            check.due("number of the promise of " + promise.group(2), Integer.parseInt(promise.group(1)), promises);
+            check.due(promise.group(2), due.contains("public " + promise.group(2) + " {") ? 1 : 0, 1);
+        }
+        check.due("promises", promises, METHODS.length + 1);
     }
 
     private static void checkConstants(Check check, Class<?> type) throws ReflectiveOperationException {
@@ -54,7 +84,7 @@ public final class FaceTest {
     }
 
     private static void checkMethods(Check check, Class<?> type) {
-        TreeSet<String> missing = new TreeSet<>(java.util.List.of(METHODS));
+        TreeSet<String> missing = new TreeSet<>(List.of(METHODS));
         TreeSet<String> names = new TreeSet<>();
         missing.forEach(method -> names.add(method.substring(0, method.indexOf('/'))));
         for (Method method : type.getDeclaredMethods()) {

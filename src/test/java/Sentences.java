@@ -10,11 +10,14 @@ import java.util.Set;
 final class Sentences {
     private static final Path DOCUMENT = Path.of("../shared/DOC.md");
 
-    /** Sentences about which there is nothing to test. */
+    /** Sentences about which there is nothing to test: they say no more than others, or leave something free. */
     private static final Set<String> PLAIN = Set.of(
         "Some of the items in a database are news.",
         "The constants:",
-        "The constructor and the methods follow, a promise each: the signature, then what it does.");
+        "The constructor and the methods follow, a promise each: the signature, then what it does.",
+        "How the state is held inside the object is free, as are the speed of each call, the text of toString and the"
+            + " behaviour of equals and hashCode.",
+        "Use of one object from several threads at once is not promised to be safe.");
 
     private record Sentence(int promise, String words) { }
 
@@ -39,12 +42,12 @@ final class Sentences {
         sentences.removeIf(sentence -> PLAIN.contains(sentence.words));
     }
 
-    /** 0 for the description, -1 for a part that promises nothing. */
+    /** 0 for what stands outside of the promises, -1 for the face, which FaceTest looks at. */
     private static int promiseOf(String heading) {
         if (heading.startsWith("## Promise ")) {
             return Integer.parseInt(heading.substring("## Promise ".length(), heading.indexOf(':')));
         }
-        return heading.equals("## Description") ? 0 : -1;
+        return heading.equals("## The public face") ? -1 : 0;
     }
 
     private static String plainWords(String line) {
